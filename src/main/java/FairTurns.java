@@ -495,9 +495,9 @@ public final class FairTurns {
     }
 
     int headOf(int one, int ofKind) {
-      int ofRank = rankOf(one);
-      if (ofRank == GUEST) return 2;
-      return ofRank == CHIEF && (ofKind == HOLIDAY || ofKind == EVE) ? 1 : 0;
+      if (!isOne(one)) return 0;
+      if (rank[one] == GUEST) return 2;
+      return rank[one] == CHIEF && (ofKind == HOLIDAY || ofKind == EVE) ? 1 : 0;
     }
 
     int loadOf(int one, int ofKind) {
@@ -914,19 +914,25 @@ public final class FairTurns {
     }
   }
 
-  // BEST RING: rows of duties, the least first, each handed on to the holder of the one behind it.
+  // BEST RING: rows of held duties of one kind, the least first, each handed on to the holder of the one behind it.
   private static final class Rings {
     static final int LONGEST = 4;
 
     private final Book book;
-    private final boolean[] can = new boolean[PEOPLE * DUTIES];
+    private final int[] held = new int[DUTIES];
+    private final int[] holderBits = new int[DUTIES];
+    private final int[] costs = new int[DUTIES * DUTIES];
     private final int[] row = new int[LONGEST];
     private final int[] best = new int[LONGEST];
+    private int heldCount;
+    private int mostCost;
     private int bestSize;
     private int bestGain;
 
     Rings(Book ofBook) {
       book = ofBook;
+      heldCount = 0;
+      mostCost = 0;
       bestSize = 0;
       bestGain = 0;
     }
@@ -946,56 +952,80 @@ public final class FairTurns {
     boolean findBest() {
       bestSize = 0;
       bestGain = 0;
-      noteWhoCan();
-      for (int duty = 0; duty < book.duties; duty++) {
-        int one = book.holderOf(duty);
-        if (one == OPEN) continue;
-        row[0] = duty;
-        grow(1, book.dislikeOf(one, duty));
+      for (int kind = 0; kind < KINDS; kind++) {
+        noteHeld(kind);
+        noteCosts();
+        for (int first = 0; first < heldCount && first < DUTIES; first++) {
+          row[0] = first;
+          grow(1, costOf(first, first), holderBits[first]);
+        }
       }
       return bestSize > 0;
     }
 
-    // Asked once a search: the rows ask the same again and again.
-    private void noteWhoCan() {
-      for (int one = 0; one < PEOPLE; one++) {
-        for (int duty = 0; duty < DUTIES; duty++) can[one * DUTIES + duty] = book.mayHold(one, duty);
+    private void noteHeld(int kind) {
+      heldCount = 0;
+      for (int duty = 0; duty < book.duties && heldCount < DUTIES; duty++) {
+        int one = book.holderOf(duty);
+        if (book.kindOf(duty) != kind || one == OPEN) continue;
+        held[heldCount] = duty;
+        holderBits[heldCount] = 1 << one;
+        heldCount++;
       }
     }
 
-    private boolean canHold(int one, int duty) {
-      return book.isOne(one) && book.isDuty(duty) && can[one * DUTIES + duty];
+    // What the holder of one dislikes another; NONE: it may not hold it. The rows ask this again and again.
+    private void noteCosts() {
+      mostCost = 0;
+      for (int from = 0; from < heldCount && from < DUTIES; from++) {
+        int one = book.holderOf(held[from]);
+        for (int to = 0; to < heldCount && to < DUTIES; to++) {
+          boolean can = book.mayHold(one, held[to]);
+          costs[from * DUTIES + to] = can ? book.dislikeOf(one, held[to]) : NONE;
+        }
+        mostCost = Math.max(mostCost, costs[from * DUTIES + from]);
+      }
     }
 
-    // Rows grow in their order, so that of like rings of one size the first found is the best.
-    private void grow(int size, int gain) {
+    private int costOf(int from, int to) {
+      boolean isThere = from >= 0 && from < DUTIES && to >= 0 && to < DUTIES;
+      return isThere ? costs[from * DUTIES + to] : NONE;
+    }
+
+    // Rows grow in their order, so that of a kind's like rings of one size the first found is the best.
+    private void grow(int size, int gain, int holders) {
       if (size < 1 || size > LONGEST) return;
       int last = row[size - 1];
       if (size > 1) tryRing(size, gain);
-      if (size == LONGEST) return;
-      for (int duty = row[0] + 1; duty < book.duties; duty++) {
-        int one = book.holderOf(duty);
-        if (book.kindOf(duty) != book.kindOf(last) || !canHold(one, last) || isInRow(one, size)) continue;
-        row[size] = duty;
-        grow(size + 1, gain + book.dislikeOf(one, duty) - book.dislikeOf(one, last));
+      // Each more duty gains at most what is disliked most.
+      int bound = gain + (LONGEST - size) * mostCost;
+      if (size == LONGEST || bound <= 0 || bound < bestGain) return;
+      for (int more = row[0] + 1; more < heldCount && more < DUTIES; more++) {
+        int cost = costOf(more, last);
+        if ((holders & holderBits[more]) != 0 || cost == NONE) continue;
+        row[size] = more;
+        grow(size + 1, gain + costOf(more, more) - cost, holders | holderBits[more]);
       }
-    }
-
-    private boolean isInRow(int one, int size) {
-      for (int place = 0; place < size && place < LONGEST; place++) {
-        if (book.holderOf(row[place]) == one) return true;
-      }
-      return false;
     }
 
     private void tryRing(int size, int gainOfRow) {
-      int first = book.holderOf(row[0]);
-      if (size < 2 || size > LONGEST || !canHold(first, row[size - 1])) return;
-      int gain = gainOfRow - book.dislikeOf(first, row[size - 1]);
-      if (gain <= 0 || gain < bestGain || gain == bestGain && size >= bestSize) return;
+      if (size < 2 || size > LONGEST) return;
+      int cost = costOf(row[0], row[size - 1]);
+      int gain = gainOfRow - cost;
+      if (cost == NONE || gain <= 0 || !isBetter(gain, size)) return;
       bestGain = gain;
       bestSize = size;
-      for (int place = 0; place < size; place++) best[place] = row[place];
+      for (int place = 0; place < size; place++) best[place] = dutyOfRow(place);
+    }
+
+    private boolean isBetter(int gain, int size) {
+      if (gain != bestGain) return gain > bestGain;
+      return size != bestSize ? size < bestSize : dutyOfRow(0) < best[0];
+    }
+
+    private int dutyOfRow(int place) {
+      if (place < 0 || place >= LONGEST) return NONE;
+      return row[place] >= 0 && row[place] < DUTIES ? held[row[place]] : NONE;
     }
 
     void handOn() {
@@ -1068,7 +1098,7 @@ public final class FairTurns {
     }
 
     boolean takesIf(int letter) {
-      if (isFaulty() || byteHere() != letter) return false;
+      if (fault != NONE || byteHere() != letter) return false;
       at++;
       return true;
     }
@@ -1089,27 +1119,27 @@ public final class FairTurns {
     }
 
     int takeFigure() {
-      int letter = byteHere();
-      if (isFaulty() || letter < '0' || letter > '9') {
+      int figure = byteHere() - '0';
+      if (figure < 0 || figure > 9) {
         fail(at);
         return NONE;
       }
       at++;
-      return letter - '0';
+      return figure;
     }
 
+    // A number that is missing and one that may not be have the same place: where it begins.
     int takeNumber(int least, int most) {
       int begin = at;
-      int number = takeFigure();
-      for (int figures = 1; figures < MOST_FIGURES && isFigureHere(); figures++) {
-        number = number * 10 + takeFigure();
+      int number = 0;
+      for (int figures = 0; figures < MOST_FIGURES; figures++) {
+        int figure = byteHere() - '0';
+        if (figure < 0 || figure > 9) break;
+        number = number * 10 + figure;
+        at++;
       }
-      if (number < least || number > most) fail(begin);
+      if (at == begin || number < least || number > most) fail(begin);
       return number;
-    }
-
-    private boolean isFigureHere() {
-      return !isFaulty() && byteHere() >= '0' && byteHere() <= '9';
     }
 
     int takeKind() {
@@ -1323,7 +1353,7 @@ public final class FairTurns {
       }
       if (tape.takesIf('<')) return values[word] < tape.takeNumber(0, MOST_NUMBER);
       if (tape.takesIf('>')) return values[word] > tape.takeNumber(0, MOST_NUMBER);
-      tape.take('=');
+      if (!tape.takesIf('=')) tape.fail(tape.at());
       return values[word] == tape.takeNumber(0, MOST_NUMBER);
     }
 

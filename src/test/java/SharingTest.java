@@ -247,6 +247,13 @@ public final class SharingTest {
     Due.is("ring(1)", y.ring(1), 2);
     Due.is("ring(10)", y.ring(10), 3);
     Due.is("ring(11)", y.ring(11), 4);
+    // Of like ones of two kinds the one with the least first duty, though its kind is the later.
+    FairTurns w = Due.with(2, "1p;2h;3p;4h");
+    for (int duty = 0; duty < 4; duty++) w.hold(duty, duty / 2);
+    w.dislike(0, 0, 5);
+    w.dislike(0, 1, 5);
+    Due.is("ring(10), two kinds", w.ring(10), 0);
+    Due.is("ring(11), two kinds", w.ring(11), 2);
     // Of like ones with the same first duty that with the least second one.
     FairTurns z = Due.with(3, "1p;2p;3p");
     for (int duty = 0; duty < 3; duty++) z.hold(duty, duty);
