@@ -25,6 +25,10 @@ public final class ListsTest {
       Due.is("told(" + (10 + kind) + ")", x.told(10 + kind), kinds[kind]);
       Due.is("told(" + (20 + kind) + ")", x.told(20 + kind), open[kind]);
     }
+    FairTurns days = Due.with(0, "7h;5h;7n;6p;5e;7h;9p;10p");
+    Due.is("unlike days", days.told(7), 5);
+    Due.is("the first day", days.told(8), 5);
+    Due.is("the last day", days.told(9), 10);
     int[] none = {-1, 14, 19, 24, 30, Integer.MAX_VALUE, Integer.MIN_VALUE};
     for (int what : none) Due.is("told(" + what + ")", x.told(what), Due.NONE);
   }
@@ -44,6 +48,10 @@ public final class ListsTest {
     Due.is("get(0, 29), stays", x.get(0, 29), 7);
     Due.is("list(0, 30) again", x.list(0, 30), 1);
     Due.is("get(0, 29), anew", x.get(0, 29), 0);
+    x.set(0, 0, 8);
+    x.list(0, 1);
+    Due.is("get(0, 0), anew", x.get(0, 0), 0);
+    Due.is("get(0, 1), a lesser row", x.get(0, 1), Long.MIN_VALUE);
     Due.is("list(3, 0)", x.list(3, 0), 1);
     Due.is("set(3, 0, 1)", x.set(3, 0, 1), Due.BEYOND);
     Due.is("get(3, 0)", x.get(3, 0), Long.MIN_VALUE);
@@ -89,6 +97,8 @@ public final class ListsTest {
     Due.is("lay(0, most)", x.lay(0, Integer.MAX_VALUE), Due.BEYOND);
     Due.is("lay(0, least)", x.lay(0, Integer.MIN_VALUE), Due.BEYOND);
     Due.is("lay(0, 2)", x.lay(0, 2), 3);
+    Due.is("lay(0, 0)", x.lay(0, 0), 3);
+    Due.is("get(0, 0), laid", x.get(0, 0), 1);
     FairTurns none = Due.members(1);
     none.list(2, 3);
     Due.is("lay(2, 0), no duties", none.lay(2, 0), 0);
@@ -138,9 +148,50 @@ public final class ListsTest {
     Due.is("undo() again", x.undo(), 3);
     x.goes(1);
     x.image();
+    x.goes(2);
     x.comes(1);
     Due.is("undo() of the later image", x.undo(), 3);
     Due.is("1 has gone in the later image", x.of(1, 1), 0);
+    Due.is("2 is here in the later image", x.of(2, 1), 1);
+    imageOfRulesAndDuties();
+  }
+
+  private static void imageOfRulesAndDuties() {
+    FairTurns x = Due.with(2, "10h;20n");
+    Due.feed(x, "d10-12;kp;r3:1");
+    x.rules(0);
+    x.image();
+    x.goes(0);
+    x.frees(0);
+    x.hold(0, 1);
+    x.hold(1, 1);
+    x.close();
+    x.duty(5, 1);
+    x.duty(6, 3);
+    x.duty(7, 3);
+    Due.is("undo()", x.undo(), 2);
+    Due.is("0 is here again", x.of(0, 1), 1);
+    Due.is("day of 0", x.dutyOf(0, 0), 10);
+    Due.is("kind of 0", x.dutyOf(0, 1), 0);
+    Due.is("day of 1", x.dutyOf(1, 0), 20);
+    Due.is("kind of 1", x.dutyOf(1, 1), 2);
+    int[] days = {9, 10, 13, 13, 16};
+    int[] kinds = {0, 0, 0, 3, 1};
+    int[] may = {0, 0, 1, 0, 1};
+    for (int i = 0; i < 5; i++) {
+      int duty = x.duty(days[i], kinds[i]);
+      Due.is("may(0, " + duty + ") by the rules of the image", x.may(0, duty), may[i]);
+    }
+    // Other rules at the same places go as they came.
+    x.undo();
+    x.frees(0);
+    Due.feed(x, "kh;d20-20;ke");
+    x.rules(0);
+    x.undo();
+    for (int i = 0; i < 5; i++) {
+      int duty = x.duty(days[i], kinds[i]);
+      Due.is("may(0, " + duty + ") once more", x.may(0, duty), may[i]);
+    }
   }
 
   private static void constants() {

@@ -213,6 +213,8 @@ public final class SharingTest {
     Due.is("ring(0), none", x.ring(0), Due.NOBODY);
     Due.is("ring(1), none", x.ring(1), Due.NOBODY);
     Due.is("ring(13), none", x.ring(13), Due.NOBODY);
+    Due.is("ring(14), none", x.ring(14), Due.NONE);
+    Due.is("ring(2), none", x.ring(2), Due.NONE);
   }
 
   private static void ringTies() {
@@ -275,6 +277,7 @@ public final class SharingTest {
     Due.is("ring(0)", x.ring(0), 27);
     Due.is("ring(1)", x.ring(1), 4);
     for (int i = 0; i < 4; i++) Due.is("ring(" + (10 + i) + ")", x.ring(10 + i), i);
+    Due.is("ring(14), of four", x.ring(14), Due.NONE);
     Due.is("turn(1)", x.turn(1), 1);
     Due.paperIs(x, "1h=1;2h=2;3h=3;4h=0;5h=4");
     // Now 0 and 4 change, and the five have gone round all the same.
@@ -316,5 +319,9 @@ public final class SharingTest {
     Due.is("turn(24)", x.turn(24), 1);
     Due.paperIs(x, "1n=1;2n=0;3h=1;4h=0");
     Due.is("turn(1), none", x.turn(1), 0);
+    x.dislike(0, 0, 0);
+    x.dislike(0, 1, 1);
+    Due.is("ring(0), the least gain", x.ring(0), 1);
+    Due.is("turn(24), the least gain", x.turn(24), 1);
   }
 }

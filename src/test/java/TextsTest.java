@@ -51,12 +51,12 @@ public final class TextsTest {
     String[] texts = {"day=5", "day<14", "day>13", "kind=2", "kind<1", "who=0", "who=10", "who=7", "who>1", "held=1", "held=0",
       "dislike=4", "dislike=0", "week=0", "week=1", "week=2", "week>51", "day>999", "day<999", "held=000",
       "!day=5", "!held=1|kind=2", "!(held=1|kind=2)", "day=5|day=13&kind=3", "(day=5|day=13)&kind=0", "day=5&kind=1|kind=3",
-      "kind=0|kind=1|kind=2", "held=1&day>5&day<365", "!!held=1", "!!!!held=1", "((((held=1))))", "!(!(held=0))",
+      "kind=0|kind=1|kind=2", "held=1&day>5&day<365", "!!held=1", "!!!!held=1", "((((held=1))))", "!(!(held=0))", "day>0", "day<0", "week>0",
       "!(held=0)&!(kind=0)&(((!day=14)))"};
     int[] bits = {1, 3, 12, 4, 1, 1, 2, 8, 10, 13, 2,
       1, 14, 1, 2, 4, 8, 0, 15, 2,
       14, 6, 2, 1, 1, 8,
-      7, 4, 13, 13, 13, 2,
+      7, 4, 13, 13, 13, 2, 15, 0, 14,
       8};
     for (int i = 0; i < texts.length; i++) {
       Due.is("pick() of " + texts[i], pick(x, texts[i]), bits[i]);
@@ -74,11 +74,11 @@ public final class TextsTest {
     String[] texts = {"", "=", "5", "d=5", "days=5", "dayday=5", "day", "day5", "day==5", "day=", "day=x", "day=1234", "day=5 ", "day =5",
       "day=5|", "day=5&", "day=5||day=6", "day=5&&day=6", "(day=5", "(day=5))", "()", "!", "(", "!=5", "day!5", "Day=5",
       "!!!!!day=5", "(((((day=5)))))", "!(!(!day=5))", "!(!((day=5)))&d=3", "day=5)", "day=5|foo=6", "day=5&who=999&he=1", "day<=5",
-      "week=1|(held=2&(kind=3)", "((((!day=1))))", "!(!(day=5)&!(!(day=1)))"};
+      "week=1|(held=2&(kind=3)", "((((!day=1))))", "!(!(day=5)&!(!(day=1)))", "dayz=1", "bay=5", "held=1|xeek=1", "wee=1", "whoo=1"};
     int[] faults = {0, 0, 0, 0, 0, 0, 3, 3, 4, 4, 4, 7, 5, 3,
       6, 6, 6, 6, 6, 7, 1, 1, 1, 1, 3, 0,
       4, 4, 4, 4, 5, 6, 14, 4,
-      23, 4, 13};
+      23, 4, 13, 0, 0, 7, 0, 0};
     for (int i = 0; i < texts.length; i++) {
       Due.is("pick() of '" + texts[i] + "'", pick(x, texts[i]), -100 - faults[i]);
       Due.is("tape behind '" + texts[i] + "'", x.told(5), 0);
@@ -87,6 +87,11 @@ public final class TextsTest {
     StringBuilder longest = new StringBuilder("held=1");
     while (longest.length() + 7 <= 150) longest.append("|held=0");
     Due.is("a long one", pick(x, longest.toString()), 15);
+    longest.append("|da");
+    Due.is("a word that is none at the end of a full tape", pick(x, longest.toString()), -247);
+    longest.setLength(146);
+    longest.append("|day");
+    Due.is("a word at the end of a full tape", pick(x, longest.toString()), -250);
   }
 
   private static void openAll() {

@@ -59,6 +59,11 @@ public final class YearsTest {
     Due.is("sum, one gone", x.audit(2, 2), 12);
     x.comes(3);
     Due.is("sum with a guest", x.audit(2, 2), 12 + 4 + 2);
+    FairTurns all = Due.members(8);
+    for (int one = 0; one < 8; one++) all.past(one, 1, one);
+    Due.is("spread of eight", all.audit(1, 0), 7);
+    Due.is("envy of eight", all.audit(1, 1), 21);
+    Due.is("sum of eight", all.audit(1, 2), 28);
     Due.is("audit(2, 3)", x.audit(2, 3), Due.NONE);
     Due.is("audit(2, -1)", x.audit(2, -1), Due.NONE);
     Due.is("audit(4, 0)", x.audit(4, 0), Due.NONE);
