@@ -6,6 +6,7 @@ public final class FairTurns {
   private static final int TAPE = 150, PAPER = 168, LISTS = 4, ROW = 30;
   private static final int LAST_DAY = 365, MOST_PAST = 999, MOST_DISLIKE = 9, MOST_TURNS = 24;
   private static final int OPEN = -1, NOBODY = -5, NOTHING = -11, BEYOND = -13, BELOW = -14;
+  private static final long LEAST_LONG = 1L << 63;
   private static final int CHIEF = 2, GUEST = 3, HOLIDAY = 0, EVE = 1;
   private static final int SPAN = 0, SORT = 1, BEAT = 2;
   private static final int[] BURDENS = {5, 3, 2, 1};
@@ -1449,7 +1450,7 @@ public final class FairTurns {
     }
 
     long at(int row, int place) {
-      return isPlace(row, place) ? places[row * ROW + place] : Long.MIN_VALUE;
+      return isPlace(row, place) ? places[row * ROW + place] : LEAST_LONG;
     }
   }
 }
