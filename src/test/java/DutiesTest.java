@@ -25,15 +25,10 @@ public final class DutiesTest {
     for (int i = 0; i < 24; i++) Due.is("stands(" + i + ")", x.stands(i), 23 - i);
   }
 
-  private static int calendar(FairTurns x, String text) {
-    Due.feed(x, text);
-    return x.calendar();
-  }
-
   private static void calendar() {
     FairTurns x = new FairTurns();
-    Due.is("one", calendar(x, "005h"), 1);
-    Due.is("four", calendar(x, "0p;365n;5e;10h"), 4);
+    Due.is("one", Due.calendar(x, "005h"), 1);
+    Due.is("four", Due.calendar(x, "0p;365n;5e;10h"), 4);
     Due.is("tape", x.told(5), 0);
     int[] days = {5, 0, 365, 5, 10};
     int[] kinds = {0, 3, 2, 1, 0};
@@ -49,17 +44,17 @@ public final class DutiesTest {
     String[] texts = {"", "h", "5", "5x", "5h;", "5h;6", "5h;;", "5h,6h", "366h", "400", "5h;999x", "1000h", "0000h", "5hh", "5 h", ";5h", "5H", "-5h"};
     int[] faults = {0, 0, 1, 1, 3, 4, 3, 2, 0, 0, 3, 3, 3, 2, 1, 0, 1, 0};
     for (int i = 0; i < texts.length; i++) {
-      Due.is("calendar() of '" + texts[i] + "'", calendar(x, texts[i]), -100 - faults[i]);
+      Due.is("calendar() of '" + texts[i] + "'", Due.calendar(x, texts[i]), -100 - faults[i]);
       Due.is("tape behind '" + texts[i] + "'", x.told(5), 0);
       Due.is("duties behind '" + texts[i] + "'", x.told(2), 0);
     }
     for (int i = 0; i < 22; i++) x.duty(i, 0);
-    Due.is("three for two", calendar(x, "1h;2h;3h"), -106);
-    Due.is("three for two, the third wrong", calendar(x, "1h;2h;3x"), -106);
-    Due.is("three for two, the second wrong", calendar(x, "1h;2x;3h"), -104);
+    Due.is("three for two", Due.calendar(x, "1h;2h;3h"), -106);
+    Due.is("three for two, the third wrong", Due.calendar(x, "1h;2h;3x"), -106);
+    Due.is("three for two, the second wrong", Due.calendar(x, "1h;2x;3h"), -104);
     Due.is("duties", x.told(2), 22);
-    Due.is("two for two", calendar(x, "1h;2h"), 2);
-    Due.is("one for none", calendar(x, "1h"), -100);
+    Due.is("two for two", Due.calendar(x, "1h;2h"), 2);
+    Due.is("one for none", Due.calendar(x, "1h"), -100);
   }
 
   private static void dutyOf() {

@@ -145,30 +145,24 @@ public final class PeopleTest {
     Due.is("neutral(4)", x.neutral(4), Due.NONE);
   }
 
-  private static int rule(FairTurns x, int one, String text) {
-    x.clear();
-    Due.feed(x, text);
-    return x.rules(one);
-  }
-
   private static void rules() {
     FairTurns x = Due.with(3, "0h;9h;10e;20n;21n;365p");
     for (int duty = 0; duty < 6; duty++) x.hold(duty, 0);
-    Due.is("d10-20", rule(x, 0, "d10-20"), 1);
+    Due.is("d10-20", Due.rules(x, 0, "d10-20"), 1);
     int[] may = {1, 1, 0, 0, 1, 1};
     for (int duty = 0; duty < 6; duty++) {
       Due.is("may(0, " + duty + ")", x.may(0, duty), may[duty]);
       Due.is("holder of " + duty, x.dutyOf(duty, 2), may[duty] == 1 ? 0 : Due.NOBODY);
     }
-    Due.is("kh;d365-365", rule(x, 0, "kh;d365-365"), 2);
+    Due.is("kh;d365-365", Due.rules(x, 0, "kh;d365-365"), 2);
     Due.is("of(0, 4)", x.of(0, 4), 3);
     int[] more = {0, 0, 0, 0, 1, 0};
     for (int duty = 0; duty < 6; duty++) Due.is("may(0, " + duty + ")", x.may(0, duty), more[duty]);
     Due.is("told(3)", x.told(3), 5);
-    Due.is("r7:2", rule(x, 1, "r7:2"), 1);
+    Due.is("r7:2", Due.rules(x, 1, "r7:2"), 1);
     int[] beat = {0, 1, 0, 0, 0, 0};
     for (int duty = 0; duty < 6; duty++) Due.is("may(1, " + duty + ")", x.may(1, duty), beat[duty]);
-    Due.is("r2:0;r003:00", rule(x, 2, "r2:0;r003:00"), 2);
+    Due.is("r2:0;r003:00", Due.rules(x, 2, "r2:0;r003:00"), 2);
     int[] both = {1, 0, 0, 0, 0, 0};
     for (int duty = 0; duty < 6; duty++) Due.is("may(2, " + duty + ")", x.may(2, duty), both[duty]);
     Due.is("tape is empty", x.told(5), 0);
@@ -182,49 +176,48 @@ public final class PeopleTest {
   }
 
   private static void ruleFaults() {
-    FairTurns x = Due.with(1, "5h");
-    x.hold(0, 0);
     String[] texts = {"", "x", "d", "d-", "d5", "d5-", "d5-4", "d5-366", "d366-x", "d1000-2", "d5-5x", "kx", "k", "r", "r1:0",
       "r10:0", "r2:2", "r9:9", "r2", "r2:", "r2;", "kh;", "kh;x", "kh,kn", " kh", "kh; kn", "d5-0009", "k", "D5-6", "kH", "d5:6", "r0:0",
-      "r2:00", "r002:1;d0-365;kq", "kh;kh;d3-2"};
+      "r002:1;d0-365;kq", "kh;kh;d3-2"};
     int[] faults = {0, 0, 1, 1, 2, 3, 3, 3, 1, 4, 4, 1, 1, 1, 1,
       1, 3, 3, 2, 3, 2, 3, 3, 2, 0, 3, 3, 1, 0, 1, 2, 1,
-      -1, 15, 9};
+      15, 9};
     for (int i = 0; i < texts.length; i++) {
-      if (faults[i] < 0) continue;
-      Due.is("rules(0) of '" + texts[i] + "'", rule(x, 0, texts[i]), -100 - faults[i]);
+      FairTurns x = Due.with(1, "5h");
+      x.hold(0, 0);
+      Due.is("rules(0) of '" + texts[i] + "'", Due.rules(x, 0, texts[i]), -100 - faults[i]);
       Due.is("tape behind '" + texts[i] + "'", x.told(5), 0);
+      Due.is("no rule came by '" + texts[i] + "'", x.of(0, 4), 0);
+      Due.is("nothing opened by '" + texts[i] + "'", x.dutyOf(0, 2), 0);
     }
-    Due.is("no rule came", x.of(0, 4), 0);
-    Due.is("nothing opened", x.dutyOf(0, 2), 0);
-    Due.is("r2:00 and d5-5", rule(x, 0, "r2:01;d5-5"), 2);
+    Due.is("r2:01 and d5-5", Due.rules(Due.members(1), 0, "r2:01;d5-5"), 2);
   }
 
   private static void roomForRules() {
     FairTurns x = Due.members(2);
-    Due.is("five", rule(x, 0, "kh;kh;ke;kn;kp"), 5);
-    Due.is("four more", rule(x, 0, "kh;kh;ke;kn"), -109);
-    Due.is("four more, the last one wrong", rule(x, 0, "kh;kh;ke;kx"), -109);
-    Due.is("four more, the third wrong", rule(x, 0, "kh;kh;kx;kn"), -107);
+    Due.is("five", Due.rules(x, 0, "kh;kh;ke;kn;kp"), 5);
+    Due.is("four more", Due.rules(x, 0, "kh;kh;ke;kn"), -109);
+    Due.is("four more, the last one wrong", Due.rules(x, 0, "kh;kh;ke;kx"), -109);
+    Due.is("four more, the third wrong", Due.rules(x, 0, "kh;kh;kx;kn"), -107);
     Due.is("none came", x.of(0, 4), 5);
-    Due.is("three more", rule(x, 0, "kh;kh;ke"), 3);
-    Due.is("one more", rule(x, 0, "kn"), -100);
-    Due.is("eight at once", rule(x, 1, "kh;kh;ke;kn;kp;kh;kh;d1-2"), 8);
+    Due.is("three more", Due.rules(x, 0, "kh;kh;ke"), 3);
+    Due.is("one more", Due.rules(x, 0, "kn"), -100);
+    Due.is("eight at once", Due.rules(x, 1, "kh;kh;ke;kn;kp;kh;kh;d1-2"), 8);
     x.frees(1);
-    Due.is("nine at once", rule(x, 1, "kh;kh;ke;kn;kp;kh;kh;kh;kh"), -124);
+    Due.is("nine at once", Due.rules(x, 1, "kh;kh;ke;kn;kp;kh;kh;kh;kh"), -124);
     Due.is("none of nine", x.of(1, 4), 0);
   }
 
   private static void frees() {
     FairTurns x = Due.with(2, "5h");
-    rule(x, 0, "kh;kn");
+    Due.rules(x, 0, "kh;kn");
     Due.is("frees(0)", x.frees(0), 2);
     Due.is("frees(0) again", x.frees(0), 0);
     Due.is("of(0, 4)", x.of(0, 4), 0);
     Due.is("may(0, 0)", x.may(0, 0), 1);
     Due.is("frees(2)", x.frees(2), Due.NONE);
     Due.is("frees(-1)", x.frees(-1), Due.NONE);
-    rule(x, 1, "kh");
+    Due.rules(x, 1, "kh");
     x.goes(1);
     Due.is("frees(1), gone", x.frees(1), 1);
   }

@@ -18,11 +18,6 @@ public final class SharingTest {
     Due.close("SharingTest");
   }
 
-  private static void rules(FairTurns x, int one, String text) {
-    Due.feed(x, text);
-    if (x.rules(one) < 0) Due.is("rules of " + text, -1, 0);
-  }
-
   private static void fillInTurn() {
     FairTurns x = Due.with(3, "8h;7h;6h;5h;4h");
     Due.is("fill(0)", x.fill(0), 5);
@@ -35,21 +30,21 @@ public final class SharingTest {
   // The second duty is for 0 alone, who holds the first: 0 hands the first on to 1.
   private static void fillShifts() {
     FairTurns x = Due.with(2, "1n;2n;3n");
-    rules(x, 1, "d2-3");
+    Due.rules(x, 1, "d2-3");
     Due.is("fill(2)", x.fill(2), 3);
     Due.paperIs(x, "1n=1;2n=0;3n=0");
     x.open(1);
     x.open(2);
-    rules(x, 0, "d2-3");
+    Due.rules(x, 0, "d2-3");
     Due.is("fill(2), nobody may", x.fill(2), 0);
     Due.is("told(22)", x.told(22), 2);
     Due.paperIs(x, "1n=1;2n=-;3n=-");
 
     // A path of three: 3n is for 0 alone, 0 hands 2n on to 1, who hands 1n on to 2.
     FairTurns y = Due.with(3, "1n;2n;3n");
-    rules(y, 0, "d1-1");
-    rules(y, 1, "d3-3");
-    rules(y, 2, "d2-3");
+    Due.rules(y, 0, "d1-1");
+    Due.rules(y, 1, "d3-3");
+    Due.rules(y, 2, "d2-3");
     y.hold(0, 1);
     y.hold(1, 0);
     Due.is("fill(2) along three", y.fill(2), 1);
@@ -57,7 +52,7 @@ public final class SharingTest {
     // Other kinds are no part of the path.
     FairTurns z = Due.with(2, "1n;2h");
     z.hold(1, 0);
-    rules(z, 1, "kn");
+    Due.rules(z, 1, "kn");
     z.past(0, 2, 5);
     Due.is("fill(2), of one kind", z.fill(2), 1);
     Due.paperIs(z, "1n=0;2h=0");
@@ -66,10 +61,10 @@ public final class SharingTest {
   // Of like loads the first come to: 1 comes by duty 0 ahead of 2, who comes by duty 1.
   private static void fillLikeLoads() {
     FairTurns x = Due.with(4, "9p;8p;1p");
-    rules(x, 0, "d200-200");
-    rules(x, 1, "d1-1;d9-9");
-    rules(x, 2, "d1-1;d8-8");
-    rules(x, 3, "d1-9");
+    Due.rules(x, 0, "d200-200");
+    Due.rules(x, 1, "d1-1;d9-9");
+    Due.rules(x, 2, "d1-1;d8-8");
+    Due.rules(x, 3, "d1-9");
     x.hold(0, 0);
     x.hold(1, 0);
     // 1p is for 0 alone; from 0 the path goes by duty 0 (day 9) to 2, then by duty 1 (day 8) to 1.
@@ -147,9 +142,9 @@ public final class SharingTest {
   // 0 may hand only to 1, 1 only to 2; the shift goes by way of 1.
   private static void easesAlongAPath() {
     FairTurns x = Due.with(3, "1e;2e;3e");
-    rules(x, 2, "d1-2");
-    rules(x, 1, "d200-200");
-    rules(x, 0, "d3-3");
+    Due.rules(x, 2, "d1-2");
+    Due.rules(x, 1, "d200-200");
+    Due.rules(x, 0, "d3-3");
     x.hold(0, 0);
     x.hold(1, 0);
     x.hold(2, 1);
@@ -292,7 +287,7 @@ public final class SharingTest {
     x.hold(1, 1);
     x.hold(2, 2);
     x.dislike(0, 0, 9);
-    rules(x, 0, "d2-2");
+    Due.rules(x, 0, "d2-2");
     Due.is("ring(0), 0 may not", x.ring(0), Due.NOBODY);
     x.frees(0);
     Due.is("ring(0)", x.ring(0), 9);

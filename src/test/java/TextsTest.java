@@ -28,12 +28,6 @@ public final class TextsTest {
     Due.is("feed(127)", x.feed(127), 2);
   }
 
-  private static int pick(FairTurns x, String text) {
-    x.clear();
-    Due.feed(x, text);
-    return x.pick();
-  }
-
   // Duties 0: 5h of 0, disliked 4; 1: 13e open; 2: 14n of 1; 3: 365p of 7.
   private static FairTurns four() {
     FairTurns x = Due.with(8, "5h;13e;14n;365p");
@@ -47,7 +41,6 @@ public final class TextsTest {
   }
 
   private static void pick() {
-    FairTurns x = four();
     String[] texts = {"day=5", "day<14", "day>13", "kind=2", "kind<1", "who=0", "who=10", "who=7", "who>1", "held=1", "held=0",
       "dislike=4", "dislike=0", "week=0", "week=1", "week=2", "week>51", "day>999", "day<999", "held=000",
       "!day=5", "!held=1|kind=2", "!(held=1|kind=2)", "day=5|day=13&kind=3", "(day=5|day=13)&kind=0", "day=5&kind=1|kind=3",
@@ -59,18 +52,18 @@ public final class TextsTest {
       7, 4, 13, 13, 13, 2, 15, 0, 14,
       8};
     for (int i = 0; i < texts.length; i++) {
-      Due.is("pick() of " + texts[i], pick(x, texts[i]), bits[i]);
+      FairTurns x = four();
+      Due.is("pick() of " + texts[i], Due.pick(x, texts[i]), bits[i]);
       Due.is("tape behind " + texts[i], x.told(5), 0);
     }
-    Due.is("pick(), no duties", pick(new FairTurns(), "day=5"), 0);
+    Due.is("pick(), no duties", Due.pick(new FairTurns(), "day=5"), 0);
     FairTurns all = new FairTurns();
     for (int i = 0; i < 24; i++) all.duty(i, 0);
-    Due.is("pick(), 24 duties", pick(all, "held=0"), (1 << 24) - 1);
-    Due.is("pick(), the last", pick(all, "day=23"), 1 << 23);
+    Due.is("pick(), 24 duties", Due.pick(all, "held=0"), (1 << 24) - 1);
+    Due.is("pick(), the last", Due.pick(all, "day=23"), 1 << 23);
   }
 
   private static void pickFaults() {
-    FairTurns x = four();
     String[] texts = {"", "=", "5", "d=5", "days=5", "dayday=5", "day", "day5", "day==5", "day=", "day=x", "day=1234", "day=5 ", "day =5",
       "day=5|", "day=5&", "day=5||day=6", "day=5&&day=6", "(day=5", "(day=5))", "()", "!", "(", "!=5", "day!5", "Day=5",
       "!!!!!day=5", "(((((day=5)))))", "!(!(!day=5))", "!(!((day=5)))&d=3", "day=5)", "day=5|foo=6", "day=5&who=999&he=1", "day<=5",
@@ -80,18 +73,20 @@ public final class TextsTest {
       4, 4, 4, 4, 5, 6, 14, 4,
       23, 4, 13, 0, 0, 7, 0, 0};
     for (int i = 0; i < texts.length; i++) {
-      Due.is("pick() of '" + texts[i] + "'", pick(x, texts[i]), -100 - faults[i]);
+      FairTurns x = four();
+      Due.is("pick() of '" + texts[i] + "'", Due.pick(x, texts[i]), -100 - faults[i]);
       Due.is("tape behind '" + texts[i] + "'", x.told(5), 0);
     }
-    Due.is("a fault, no duties", pick(new FairTurns(), "dax=5"), -100);
+    Due.is("a fault, no duties", Due.pick(new FairTurns(), "dax=5"), -100);
+    FairTurns x = four();
     StringBuilder longest = new StringBuilder("held=1");
     while (longest.length() + 7 <= 150) longest.append("|held=0");
-    Due.is("a long one", pick(x, longest.toString()), 15);
+    Due.is("a long one", Due.pick(x, longest.toString()), 15);
     longest.append("|da");
-    Due.is("a word that is none at the end of a full tape", pick(x, longest.toString()), -247);
+    Due.is("a word that is none at the end of a full tape", Due.pick(x, longest.toString()), -247);
     longest.setLength(146);
     longest.append("|day");
-    Due.is("a word at the end of a full tape", pick(x, longest.toString()), -250);
+    Due.is("a word at the end of a full tape", Due.pick(x, longest.toString()), -250);
   }
 
   private static void openAll() {
@@ -113,12 +108,6 @@ public final class TextsTest {
     Due.is("openAll(), no duties", none.openAll(), 0);
   }
 
-  private static int judge(FairTurns x, String text) {
-    x.clear();
-    Due.feed(x, text);
-    return x.judge();
-  }
-
   private static void judge() {
     FairTurns none = Due.members(1);
     Due.feed(none, "x");
@@ -129,29 +118,33 @@ public final class TextsTest {
     x.hold(0, 0);
     x.hold(1, 0);
     x.hold(2, 1);
-    Due.is("as now", judge(x, "4h=0;5h=0;6e=1;7p=-"), Due.NOBODY);
-    Due.is("more open h", judge(x, "4h=-;5h=1;6e=1;7p=0"), 100);
-    Due.is("more open e", judge(x, "4h=1;5h=2;6e=-;7p=0"), 101);
-    Due.is("lesser h", judge(x, "4h=1;5h=0;6e=1;7p=0"), 200);
-    Due.is("like h, like e, greater p", judge(x, "4h=1;5h=1;6e=2;7p=2"), 303);
+    Due.is("as now", Due.judge(x, "4h=0;5h=0;6e=1;7p=-"), Due.NOBODY);
+    Due.is("more open h", Due.judge(x, "4h=-;5h=1;6e=1;7p=0"), 100);
+    Due.is("more open e", Due.judge(x, "4h=1;5h=2;6e=-;7p=0"), 101);
+    Due.is("lesser h", Due.judge(x, "4h=1;5h=0;6e=1;7p=0"), 200);
+    Due.is("like h, like e, greater p", Due.judge(x, "4h=1;5h=1;6e=2;7p=2"), 303);
     x.past(0, 1, 1);
     // Now e is 1 1 0; by 0 it is 2 0 0.
-    Due.is("greater e", judge(x, "4h=2;5h=2;6e=0;7p=-"), 301);
+    Due.is("greater e", Due.judge(x, "4h=2;5h=2;6e=0;7p=-"), 301);
     x.hold(2, 0);
-    Due.is("lesser e ahead of greater p", judge(x, "4h=2;5h=2;6e=1;7p=1"), 201);
+    Due.is("lesser e ahead of greater p", Due.judge(x, "4h=2;5h=2;6e=1;7p=1"), 201);
     x.hold(1, 1);
-    Due.is("greater h ahead of lesser e", judge(x, "4h=2;5h=2;6e=1;7p=-"), 300);
+    Due.is("greater h ahead of lesser e", Due.judge(x, "4h=2;5h=2;6e=1;7p=-"), 300);
     Due.feed(x, "d4-5;d7-7");
     x.rules(2);
-    Due.is("may not, the first that stands", judge(x, "4h=2;5h=2;6e=-;7p=2"), 1);
-    Due.is("may not, the last", judge(x, "4h=0;5h=-;6e=-;7p=2"), 3);
+    Due.is("may not, the first that stands", Due.judge(x, "4h=2;5h=2;6e=-;7p=2"), 1);
+    Due.is("may not, the last", Due.judge(x, "4h=0;5h=-;6e=-;7p=2"), 3);
     Due.is("tape", x.told(5), 0);
     Due.paperIs(x, "4h=1;5h=0;6e=0;7p=-");
   }
 
-  private static void rosterFaults() {
+  private static FairTurns oneGone() {
     FairTurns x = Due.with(3, "5h;4h;120e");
     x.goes(1);
+    return x;
+  }
+
+  private static void rosterFaults() {
     String[] texts = {"", "4", "4h", "4h=", "4h=0", "4h=0;", "5h=0", "4e=0", "4x=0", "4h=1", "4h=3", "4h=8", "4h=x", "4h=00", "4h-0",
       "4h=0;5h=-;120e=0;", "4h=0;5h=-;120e=00", "4h=0;5h=-;12e=0", "4h=0;5h=-;1200e=0", "004h=0;05h=2;120e", "0004h=0", "4h=0,5h=0",
       "4h=0;4h=0", "x", " 4h=0", "999h=0", "4h=0;5h=-;120h=0", "4h=--", "4hh"};
@@ -159,16 +152,14 @@ public final class TextsTest {
       16, 16, 10, 13, 17, 0, 4,
       5, 0, 0, 0, 13, 4, 2};
     for (int i = 0; i < texts.length; i++) {
-      Due.feed(x, texts[i]);
-      Due.is("judge() of '" + texts[i] + "'", x.judge(), -100 - faults[i]);
+      FairTurns x = oneGone();
+      Due.is("judge() of '" + texts[i] + "'", Due.judge(x, texts[i]), -100 - faults[i]);
       Due.is("tape behind '" + texts[i] + "'", x.told(5), 0);
-      Due.feed(x, texts[i]);
-      Due.is("roster() of '" + texts[i] + "'", x.roster(), -100 - faults[i]);
+      Due.is("roster() of '" + texts[i] + "'", Due.roster(x, texts[i]), -100 - faults[i]);
       Due.is("tape behind '" + texts[i] + "'", x.told(5), 0);
+      Due.paperIs(x, "4h=-;5h=-;120e=-");
     }
-    Due.paperIs(x, "4h=-;5h=-;120e=-");
-    Due.feed(x, "004h=0;05h=2;120e=-");
-    Due.is("roster() with noughts ahead", x.roster(), 2);
+    Due.is("roster() with noughts ahead", Due.roster(oneGone(), "004h=0;05h=2;120e=-"), 2);
   }
 
   private static void roster() {
