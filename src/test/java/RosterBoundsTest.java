@@ -198,18 +198,24 @@ public final class RosterBoundsTest {
     Due.is("roster(), 0 may not, and more behind", Due.roster(x, "5h=0;6h=1;"), -109);
   }
 
-  private static void twentyFourDuties() {
-    Due.by("==== 4: A ROSTER of 24 DUTIES");
+  private static FairTurns twentyFourEves() {
     FairTurns x = Due.members(8);
     for (int duty = 0; duty < 24; duty++) x.duty(10, 1);
+    return x;
+  }
+
+  private static void twentyFourDuties() {
+    Due.by("==== 4: A ROSTER of 24 DUTIES");
     String all = Due.repeated("10e=7", ';', 24);
     Due.is("bytes", all.length(), 143);
+    FairTurns x = twentyFourEves();
     Due.is("judge() of 24", Due.judge(x, all), 301);
     Due.is("roster() of 24", Due.roster(x, all), 24);
     Due.is("of(7, 3)", x.of(7, 3), 24);
-    Due.is("roster(), the last OPEN", Due.roster(x, Due.repeated("10e=7", ';', 23) + ";10e=-"), 23);
-    Due.is("dutyOf(23, 2)", x.dutyOf(23, 2), Due.NOBODY);
-    Due.is("judge(), the first OPEN, too", Due.judge(x, "10e=-;" + Due.repeated("10e=7", ';', 22) + ";10e=-"), 101);
+    FairTurns y = twentyFourEves();
+    Due.is("roster(), the last OPEN", Due.roster(y, Due.repeated("10e=7", ';', 23) + ";10e=-"), 23);
+    Due.is("dutyOf(23, 2)", y.dutyOf(23, 2), Due.NOBODY);
+    Due.is("judge(), the first OPEN, too", Due.judge(y, "10e=-;" + Due.repeated("10e=7", ';', 22) + ";10e=-"), 101);
   }
 
   private static void longerThanTheTape() {
@@ -333,6 +339,14 @@ public final class RosterBoundsTest {
     Due.is("as now", Due.judge(x, "1h=0;2e=1"), Due.NOBODY);
     Due.is("held by others, VECTORS alike", Due.judge(x, "1h=2;2e=0"), Due.NOBODY);
     Due.is("told(5)", x.told(5), 0);
+    FairTurns fewer = Due.with(4, "1h;2h");
+    for (int one = 0; one < 4; one++) fewer.past(one, 0, 9 - one);
+    Due.is("9 8 7 6 to 9 8 7 7", Due.judge(fewer, "1h=3;2h=-"), 300);
+    fewer.goes(3);
+    fewer.hold(0, 0);
+    Due.is("10 8 7, the fourth has gone", Due.judge(fewer, "1h=-;2h=0"), Due.NOBODY);
+    for (int one = 0; one < 3; one++) fewer.goes(one);
+    Due.is("alike of nobody HERE", Due.judge(fewer, "1h=-;2h=-"), Due.NOBODY);
     Due.by("Promise 33: what is asked changes nothing");
     Due.paperIs(x, "1h=0;2e=1");
     FairTurns guest = new FairTurns();
@@ -401,6 +415,17 @@ public final class RosterBoundsTest {
     String spelled = Due.paper(x);
     Due.is("roster() of what was SPELLED", Due.roster(x, spelled), 8);
     Due.is("judge() of what was SPELLED", Due.judge(x, spelled), Due.NOBODY);
+    for (int first = 0; first <= 365; first += 20) spellFrom(first);
+  }
+
+  private static void spellFrom(int first) {
+    FairTurns x = new FairTurns();
+    StringBuilder text = new StringBuilder();
+    for (int day = first; day < first + 20 && day <= 365; day++) {
+      x.duty(day, 2);
+      text.append(day == first ? "" : ";").append(day).append("n=-");
+    }
+    Due.paperIs(x, text.toString());
   }
 
   private static void spellTheLongest() {

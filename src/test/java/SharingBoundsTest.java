@@ -27,6 +27,8 @@ public final class SharingBoundsTest {
     ringWhat();
     turnBounds();
     turnAsLongAs();
+    turnTwentyFour();
+    theLastCall();
     Due.close("SharingBoundsTest");
   }
 
@@ -103,6 +105,23 @@ public final class SharingBoundsTest {
     y.past(2, 3, 999);
     Due.is("fill(3)", y.fill(3), 1);
     Due.is("dutyOf(0, 2)", y.dutyOf(0, 2), 1);
+    Due.by("==== 2: FILLED: of all that the PATH from it comes to (and of no others)");
+    FairTurns last = Due.withDuties(8, 2, 3);
+    for (int one = 0; one < 7; one++) Due.rules(last, one, "d1-1");
+    last.hold(0, 7);
+    last.past(7, 3, 9);
+    Due.is("lesser(3, 0), which comes to all", last.lesser(3, 0), 1);
+    last.open(0);
+    last.hold(0, 0);
+    Due.is("fill(3), 7 alone may, who bears most", last.fill(3), 1);
+    Due.is("dutyOf(1, 2)", last.dutyOf(1, 2), 7);
+    Due.is("lesser(3, 0), 7's goes to none", last.lesser(3, 0), 0);
+    FairTurns two = Due.withDuties(2, 1, 3);
+    Due.rules(two, 0, "kp");
+    two.past(1, 3, 1);
+    Due.is("fill(3), 1 alone may", two.fill(3), 1);
+    Due.is("dutyOf(0, 2)", two.dutyOf(0, 2), 1);
+    Due.by("==== 2: FILLED: the one with the least LOAD, be it the greatest PAST");
     FairTurns most = Due.withDuties(1, 1, 3);
     most.past(0, 3, 999);
     Due.is("fill(3) of the greatest PAST", most.fill(3), 1);
@@ -431,6 +450,32 @@ public final class SharingBoundsTest {
     Due.is("ring(0), GAIN -1", x.ring(0), Due.NOBODY);
     FairTurns most = round(4, 4);
     Due.is("ring(0), the greatest there can be", most.ring(0), 36);
+    for (int disliked = 0; disliked < 4; disliked++) leastGainOfFour(disliked);
+    // 0 and 1 change for 18; 2, which 2 doesn't dislike, is the least of four that gain 27.
+    FairTurns later = Due.withDuties(6, 6, 1);
+    for (int one = 0; one < 6; one++) {
+      later.hold(one, one);
+      for (int duty = 0; duty < 6; duty++) later.dislike(one, duty, 9);
+    }
+    int[] wants = {1, 0, 5, 2, 3, 4};
+    for (int one = 0; one < 6; one++) later.dislike(one, wants[one], 0);
+    later.dislike(2, 2, 0);
+    Due.is("ring(0), the later and greater", later.ring(0), 27);
+    ringIs("the later and greater", later, 2, 3, 4, 5);
+  }
+
+  // Each may hold its own and the one ahead alone, and one dislikes its own: a ring of all four or none.
+  private static void leastGainOfFour(int disliked) {
+    FairTurns x = Due.withDuties(4, 4, 0);
+    Due.rules(x, 0, "d1-2");
+    Due.rules(x, 1, "d2-3");
+    Due.rules(x, 2, "d0-0;d3-3");
+    Due.rules(x, 3, "d0-1");
+    for (int one = 0; one < 4; one++) x.hold(one, one);
+    Due.is("ring(0) of four, nothing disliked", x.ring(0), Due.NOBODY);
+    x.dislike(disliked, disliked, 1);
+    Due.is("ring(0) of four, GAIN 1", x.ring(0), 1);
+    ringIs("GAIN 1 of four", x, 0, 1, 2, 3);
   }
 
   // Rows of so many duties, one behind the other, each of which gains 8 as a ring; nothing else gains as much.
@@ -490,6 +535,13 @@ public final class SharingBoundsTest {
     kinds.dislike(0, 0, 5);
     kinds.dislike(0, 1, 5);
     ringIs("plain duties 0 and 2, holidays 1 and 3", kinds, 0, 2);
+    FairTurns fours = Due.with(4, "1p;2p;3p;4p;1h;2h;3h;4h");
+    for (int duty = 0; duty < 8; duty++) {
+      fours.hold(duty, duty % 4);
+      for (int one = 0; one < 4; one++) fours.dislike(one, duty, (one + 3) % 4 == duty % 4 ? 0 : 9);
+    }
+    Due.is("ring(0), the greatest of both KINDS", fours.ring(0), 36);
+    ringIs("plain duties 0 to 3, holidays 4 to 7", fours, 0, 1, 2, 3);
     Due.by("==== 2: BEST RING: then second");
     ringIs("0 with any", oneDislikes(0, 8), 0, 1);
     Due.by("==== 2: BEST RING: and so on: the third");
@@ -583,6 +635,46 @@ public final class SharingBoundsTest {
       Due.is("turn(1) of " + size, x.turn(1), 1);
       for (int duty = 0; duty < 5; duty++) {
         Due.is("dutyOf(" + duty + ", 2) of " + size, x.dutyOf(duty, 2), duty < size ? (duty + 1) % size : duty);
+      }
+    }
+  }
+
+  // What each holder dislikes each of eight duties, its own the one of its number: nine rings, one after the other.
+  private static final String[] NINE_RINGS = {"37652818", "88851016", "31526166", "05682631", "44677784", "64391979", "13251483", "89916158"};
+
+  private static FairTurns nineRings(int kinds) {
+    FairTurns x = Due.members(8);
+    for (int duty = 0; duty < 8 * kinds; duty++) {
+      x.duty(duty, duty / 8);
+      x.hold(duty, duty % 8);
+      for (int one = 0; one < 8; one++) x.dislike(one, duty, NINE_RINGS[one].charAt(duty % 8) - '0');
+    }
+    return x;
+  }
+
+  private static void turnTwentyFour() {
+    Due.by("Promise 23: n times (1 .. 24) at most, though there are more");
+    Due.is("turn(24) of one KIND", nineRings(1).turn(24), 9);
+    FairTurns x = nineRings(3);
+    Due.is("disliked()", x.disliked(), 168);
+    Due.is("turn(24) of three KINDS", x.turn(24), 24);
+    Due.is("disliked() behind 24", x.disliked(), 33);
+    Due.is("turn(24), what is left", x.turn(24), 3);
+    Due.is("disliked() behind all", x.disliked(), 30);
+    Due.is("ring(0), none is left", x.ring(0), Due.NOBODY);
+  }
+
+  private static void theLastCall() {
+    Due.by("An object is used for at most 512 calls: the dearest ones, and the last as the first");
+    FairTurns x = Due.withDuties(8, 24, 0);
+    for (int duty = 0; duty < 24; duty++) x.hold(duty, duty % 8);
+    for (int duty = 0; duty < 24; duty++) x.dislike(duty % 8, duty, 9);
+    // 80 calls have been; each ring of four gains 36.
+    for (int call = 81; call <= 512; call++) {
+      switch (call % 3) {
+        case 0: Due.is("ring(0), call " + call, x.ring(0), 36); break;
+        case 1: Due.is("eases(0), call " + call, x.eases(0), 0); break;
+        default: Due.is("ring(13), call " + call, x.ring(13), 3);
       }
     }
   }
