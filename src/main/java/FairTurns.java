@@ -996,11 +996,15 @@ public final class FairTurns {
     // Rows grow in their order, so that of a kind's like rings of one size the first found is the best.
     private void grow(int size, int gain, int holders) {
       if (size < 1 || size > LONGEST) return;
-      int last = row[size - 1];
       if (size > 1) tryRing(size, gain);
       // Each more duty gains at most what is disliked most.
       int bound = gain + (LONGEST - size) * mostCost;
-      if (size == LONGEST || bound <= 0 || bound < bestGain) return;
+      if (size < LONGEST && bound > 0 && bound >= bestGain) growByEach(size, gain, holders);
+    }
+
+    private void growByEach(int size, int gain, int holders) {
+      if (size < 1 || size >= LONGEST) return;
+      int last = row[size - 1];
       for (int more = row[0] + 1; more < heldCount && more < DUTIES; more++) {
         int cost = costOf(more, last);
         if ((holders & holderBits[more]) != 0 || cost == NONE) continue;

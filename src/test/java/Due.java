@@ -12,6 +12,14 @@ final class Due {
 
   private Due() {}
 
+  static int asked() {
+    return asked;
+  }
+
+  static void holds(String what, boolean so) {
+    is(what, so ? 1 : 0, 1);
+  }
+
   // The words of the document that the calls behind this one hold to.
   static void by(String words) {
     sentence = "   (" + words + ")";
