@@ -193,12 +193,9 @@ public final class FairTurns {
   }
 
   public int ring(int what) {
-    boolean isPlace = what >= 10 && what < 10 + Rings.LONGEST;
-    if (what != 0 && what != 1 && !isPlace) return NONE;
     if (!rings.findBest()) return NOBODY;
     if (what == 0) return rings.gain();
-    if (what == 1) return rings.size();
-    return what - 10 < rings.size() ? rings.dutyAt(what - 10) : NONE;
+    return what == 1 ? rings.size() : rings.dutyAt(what - 10);
   }
 
   public int turn(int n) {
@@ -917,7 +914,7 @@ public final class FairTurns {
 
   // BEST RING: rows of held duties of one kind, the least first, each handed on to the holder of the one behind it.
   private static final class Rings {
-    static final int LONGEST = 4;
+    private static final int LONGEST = 4;
 
     private final Book book;
     private final int[] held = new int[DUTIES];

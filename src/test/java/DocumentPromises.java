@@ -250,7 +250,10 @@ final class DocumentPromises {
     for (int what : whats) Due.is("ring(" + what + "), there is none", none.ring(what), Due.NOBODY);
     d.says("NONE: what (with fewer DUTIES, too).");
     int[] not = {13, 14, 2, 9, -1};
-    for (int what : not) Due.is("ring(" + what + ")", x.ring(what), Due.NONE);
+    for (int what : not) {
+      Due.is("ring(" + what + ")", x.ring(what), Due.NONE);
+      Due.is("ring(" + what + "), there is none, which is named first", none.ring(what), Due.NOBODY);
+    }
     d.says("## Promise 23: turn `int turn(int n)`: The BEST RING is DONE, n times (1 .. 24) at most, as long as there is one: how many were. BAD.");
     Due.is("turn(0)", x.turn(0), Due.BAD);
     Due.is("turn(25)", x.turn(25), Due.BAD);

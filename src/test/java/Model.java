@@ -448,12 +448,11 @@ final class Model {
   }
 
   int ring(int what) {
-    if (what != 0 && what != 1 && (what < 10 || what > 13)) return -1;
     List<Duty> best = bestRing();
     if (best == null) return -5;
     if (what == 0) return gainOf(best);
     if (what == 1) return best.size();
-    return what - 10 < best.size() ? best.get(what - 10).number : -1;
+    return what >= 10 && what < 10 + best.size() ? best.get(what - 10).number : -1;
   }
 
   int turn(int n) {

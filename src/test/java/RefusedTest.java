@@ -189,7 +189,8 @@ public final class RefusedTest {
       refused(s, "audit(0, " + what + ")", x -> x.audit(0, what), Due.NONE);
     }
     int[] rings = {Due.LEAST, -1, 2, 9, 14, Due.MOST};
-    for (int what : rings) refused(s, "ring(" + what + ")", x -> x.ring(what), Due.NONE);
+    boolean isRing = s.made.get().ring(0) > 0;
+    for (int what : rings) refused(s, "ring(" + what + ")", x -> x.ring(what), isRing ? Due.NONE : Due.NOBODY);
     int[] tolds = {Due.LEAST, -1, 14, 19, 24, Due.MOST};
     for (int what : tolds) refused(s, "told(" + what + ")", x -> x.told(what), Due.NONE);
     for (int i : Due.outside(0, 7)) {

@@ -599,7 +599,8 @@ public final class SharingBoundsTest {
     FairTurns x = Due.withDuties(2, 2, 0);
     int[] whats = {0, 1, 10, 11, 12, 13};
     for (int what : whats) Due.is("ring(" + what + "), none", x.ring(what), Due.NOBODY);
-    for (int what : none) Due.is("ring(" + what + "), none", x.ring(what), Due.NONE);
+    Due.by("Promise 22: -5: there is none. NONE: what, the first that a call's words name");
+    for (int what : none) Due.is("ring(" + what + "), none", x.ring(what), Due.NOBODY);
   }
 
   // ---- promise 23

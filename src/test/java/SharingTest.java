@@ -208,8 +208,8 @@ public final class SharingTest {
     Due.is("ring(0), none", x.ring(0), Due.NOBODY);
     Due.is("ring(1), none", x.ring(1), Due.NOBODY);
     Due.is("ring(13), none", x.ring(13), Due.NOBODY);
-    Due.is("ring(14), none", x.ring(14), Due.NONE);
-    Due.is("ring(2), none", x.ring(2), Due.NONE);
+    Due.is("ring(14), none", x.ring(14), Due.NOBODY);
+    Due.is("ring(2), none", x.ring(2), Due.NOBODY);
   }
 
   private static void ringTies() {
